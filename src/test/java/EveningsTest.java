@@ -51,12 +51,38 @@ public final class EveningsTest {
         due("evening(0, 61, 0)", vanes.evening(0, 61, 0), HeartVanes.BAD);
         due("evening(0, 1, 2)", vanes.evening(0, 1, 2), HeartVanes.BAD);
         due("evening(0, 1, -1)", vanes.evening(0, 1, -1), HeartVanes.BAD);
+        // told out by hand: DRAW is 1 at z 0, k 0, so that PERSON 0 walks north, which it can't
+        due("evening(0, 1, 0)", vanes.evening(0, 1, 0), 6 + 7 + 1 + 4 + 2 + 7);
+        due("evening(0, 1, 1)", vanes.evening(0, 1, 1), 6);
+        due("evening(9999, 1, 1)", vanes.evening(9999, 1, 1), 6);
+        leanByDraw();
         // a MILL alone in a room of one place: it can't walk, and tells otherwise each HOUR
         HeartVanes mill = Check.laid("r1,1;p2,0,0;");
         due("a MILL, in sum", mill.evening(9999, 60, 0), 4);
         due("a MILL, how often", mill.evening(9999, 60, 1), 60);
         mill.pass(3);
         due("from now on", mill.evening(9999, 60, 0), 7);
+    }
+
+    /** The first z whose first DRAW makes 1 lean toward 0, told out here: by how much shows in which of two it is by. */
+    private static void leanByDraw() {
+        int tried = 0;
+        for (int z = 0; z <= 9999; z++) {
+            long x = 7919L * z + 1;
+            int draw = (int) (x * x % 65521);
+            int p = draw / 8 % 3;
+            int q = draw / 64 % 3;
+            if (draw % 8 != 4 || p != 1 || q != 0) {
+                continue;
+            }
+            tried++;
+            int leaning = draw / 512 % 41 - 20;
+            // 1 leans toward 2, to the south, by 6 already; 0 is as far to the east
+            HeartVanes vanes = Check.laid("p0,3,0;p0,0,0;p0,0,3;l1,2,0,6;");
+            int due = leaning > 12 ? 2 : leaning >= 3 ? 3 : leaning > -3 ? 4 : leaning >= -12 ? 5 : 6;
+            due("evening(" + z + ", 1, 0), by " + leaning, vanes.evening(z, 1, 0), due);
+        }
+        due("such evenings there are", tried > 100 ? 1 : 0, 1);
     }
 
     private static void keeping() {

@@ -75,6 +75,10 @@ public final class RoomsTest {
         dueFault("r6;", 0);
         dueFault("r6,6", 0);
         dueFault("r", 0);
+        dueFault("r6,6;r", 5);
+        dueFault("r6,6;r6", 5);
+        dueFault("r6,6;r6,", 5);
+        dueFault("r6,6;r6,6", 5);
         dueFault("r6,6,6;", 0);
         dueFault("r006,6;", 0);
         dueFault("r6,006;", 0);

@@ -14,6 +14,14 @@ public final class TellTest {
         due("toward(1), north-east", vanes.toward(1), 8);
         vanes.pass(5);
         due("toward(1), west", vanes.toward(1), 16);
+        int[][] next = {{3, 2}, {4, 2}, {4, 3}, {4, 4}, {3, 4}, {2, 4}, {2, 3}, {2, 2}};
+        for (int w = 0; w < 8; w++) {
+            HeartVanes two = Check.laid("p2,3,3;p0," + next[w][0] + "," + next[w][1] + ";");
+            for (int told = 0; told < 8; told++) {
+                due("toward(0), one next to it by " + w + ", told " + told, two.toward(0), told == w ? 2 : 0);
+                two.pass(1);
+            }
+        }
         due("toward(5)", vanes.toward(5), HeartVanes.BAD);
         due("toward(-1)", vanes.toward(-1), HeartVanes.BAD);
         due("toward of one alone", Check.laid("p0,0,0;").toward(0), 0);
@@ -25,6 +33,9 @@ public final class TellTest {
         due("looked(1)", vanes.looked(1), 2);
         due("looked(2)", vanes.looked(2), HeartVanes.BAD);
         due("looked(-1)", vanes.looked(-1), HeartVanes.BAD);
+        HeartVanes three = Check.laid("p0,2,4;p0,2,2;p0,2,0;p0,2,5;");
+        due("looked(0), 2 by three", three.looked(0), 2);
+        due("looked(1), by three", three.looked(1), 3);
         HeartVanes alike = Check.laid("p0,0,5;p0,0,3;p0,5,5;p0,5,3;");
         due("looked(0), of several the lowest", alike.looked(0), 1);
         due("looked(1), of several", alike.looked(1), 1);
@@ -136,12 +147,18 @@ public final class TellTest {
         dueMarried("p0,0,0;", 0, none);
         dueMarried("p0,0,0;p0,1,0;l0,1,0,5;", 0, none, none);
         dueMarried("p0,0,0;p0,1,0;l0,1,0,5;l1,0,0,0;", 0, none, none);
+        dueMarried("p0,0,0;p0,1,0;l1,0,0,5;", 0, none, none);
         dueMarried("p0,0,0;p0,1,0;l0,1,0,5;l1,0,0,1;", 2, 1, 0);
+        dueMarried("p0,0,0;p0,1,0;p0,2,0;l1,2,0,5;l2,1,0,1;", 2, none, 2, 1);
         dueMarried("p0,0,0;p0,1,0;p0,2,0;l0,1,0,5;l1,0,0,5;l0,2,0,6;l2,0,0,1;", 2, 2, none, 0);
         // alike is not by more: the first way stands
         dueMarried("p0,0,0;p0,1,0;p0,2,0;l0,1,0,5;l1,0,0,5;l0,2,0,5;l2,0,0,1;", 2, 1, 0, none);
         // each leans most toward the next one of three
         dueMarried("p0,0,0;p0,1,0;p0,2,0;l0,1,0,9;l1,2,0,9;l2,0,0,9;l0,2,0,5;l1,0,0,5;l2,1,0,5;", none, none, none, none);
+        // the third is with the fourth, whatever the others do
+        dueMarried("p0,0,0;p0,1,0;p0,2,0;p0,3,0;l2,3,0,1;l3,2,0,1;", 2, none, none, 3, 2);
+        dueMarried("p0,0,0;p0,1,0;p0,2,0;p0,3,0;l1,2,0,1;l2,1,0,1;l0,3,0,1;l3,0,0,1;", 4, 3, 2, 1, 0);
+        dueMarried("p0,0,0;p0,1,0;p0,2,0;p0,3,0;l0,1,0,1;l1,0,0,1;l2,3,0,1;l3,2,0,1;", 4, 1, 0, 3, 2);
         // two ways stand: the one in which the lowest is with the lowest
         dueMarried("p0,0,0;p0,1,0;p0,2,0;p0,3,0;l0,2,0,1;l0,3,0,9;l1,2,0,9;l1,3,0,1;l2,0,0,9;l2,1,0,1;l3,0,0,1;l3,1,0,9;",
                 4, 2, 3, 0, 1);
