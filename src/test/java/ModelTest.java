@@ -8,7 +8,6 @@ import java.util.Random;
 public final class ModelTest {
     private static final int RUNS = 300;
     private static final int CALLS = 300;
-    private static final Check CHECK = new Check();
     private static final Random DRAWS = new Random(20261118);
     private static final List<Method> FACE = new ArrayList<>();
     private static final int[] FAR = {Integer.MIN_VALUE, -1000, -21, -5, -4, -3, -2, -1, 9, 10, 11, 21, 24, 25, 40, 41, 60, 61, 9999, 10000, Integer.MAX_VALUE};
@@ -86,17 +85,17 @@ public final class ModelTest {
             arguments[i] = argument(method.getName(), i);
         }
         String call = run + method.getName() + Arrays.toString(arguments);
-        CHECK.due(call, answer(vanes, method, arguments), answer(model, method, arguments));
+        Check.due(call, answer(vanes, method, arguments), answer(model, method, arguments));
     }
 
     private static void layAnew(HeartVanes vanes, Model model, String run) {
         String text = text();
-        CHECK.due(run + "wipe()", vanes.wipe(), model.wipe());
+        Check.due(run + "wipe()", vanes.wipe(), model.wipe());
         for (int i = 0; i < text.length(); i++) {
-            CHECK.due(run + "write of " + text, vanes.write(text.charAt(i)), model.write(text.charAt(i)));
+            Check.due(run + "write of " + text, vanes.write(text.charAt(i)), model.write(text.charAt(i)));
         }
-        CHECK.due(run + "fault() of " + text, vanes.fault(), model.fault());
-        CHECK.due(run + "lay() of " + text, vanes.lay(), model.lay());
+        Check.due(run + "fault() of " + text, vanes.fault(), model.fault());
+        Check.due(run + "lay() of " + text, vanes.lay(), model.lay());
     }
 
     public static void main(String[] args) throws Exception {
@@ -121,6 +120,6 @@ public final class ModelTest {
         for (int i = 0; i < 20000; i++) {
             layAnew(new HeartVanes(), new Model(), "text " + i + ": ");
         }
-        CHECK.end();
+        Check.end();
     }
 }
