@@ -59,7 +59,7 @@ abstract class Check {
 
     /** The call answers so, and whatever is asked behind it is answered as if it had not been. */
     static void leaves(String call, Made from, Asked asked, int want) {
-        List<View> views = List.of(Check::standing, Check::undone, Check::goneBack, Check::laidAnew);
+        List<View> views = List.of(Check::standing, Check::asked, Check::undone, Check::goneBack, Check::laidAnew);
         for (View view : views) {
             HeartVanes with = from.room();
             due(call, asked.answer(with), want);
@@ -145,6 +145,31 @@ abstract class Check {
             answers.add(vanes.kinds(p));
         }
         answers.add(vanes.fault());
+        return answers;
+    }
+
+    /** Each question of the face that does not stand in the rows of standing(). */
+    private static List<Integer> asked(HeartVanes vanes) {
+        List<Integer> answers = new ArrayList<>();
+        for (int p = 0; p < 6; p++) {
+            answers.add(vanes.toward(p));
+            answers.add(vanes.behind(3, p));
+            answers.add(vanes.marry(p));
+            for (int w = 0; w < 8; w++) {
+                answers.add(vanes.steps(p, w, -1));
+                answers.add(vanes.loves(p, w));
+            }
+            answers.add(vanes.stand(p, (p + 1) % 6, p, 0));
+            answers.add(vanes.stand((p + 1) % 6, p, p, 1));
+            answers.add(vanes.away(p, p + 1, 3, 0));
+            answers.add(vanes.place(p, p));
+        }
+        answers.add(vanes.looked(0));
+        answers.add(vanes.looked(1));
+        answers.add(vanes.settled());
+        answers.add(vanes.marry(-1));
+        answers.add(vanes.evening(5, 9, 0));
+        answers.add(vanes.evening(5, 9, 1));
         return answers;
     }
 

@@ -46,6 +46,29 @@ public final class Promise04Test extends Check {
         dueFaults(0, "r/,6;", "r:,6;", "r6,/;", "r6,:;", "r1/,6;", "r1:,6;", "r6,1/;", "r6,1:;");
     }
 
+    static void promise04_noOtherSignInPlaceOfAFigure() {
+        String whole = "r6,6;p1,0,0;p0,1,1;l0,1,0,5;";
+        int[] begins = {0, 5, 12, 19};
+        for (int at = 0; at < whole.length(); at++) {
+            if (!Character.isDigit(whole.charAt(at))) {
+                continue;
+            }
+            int due = 0;
+            for (int begin : begins) {
+                due = begin < at ? begin : due;
+            }
+            for (char sign = 32; sign <= 126; sign++) {
+                if (!Character.isDigit(sign)) {
+                    dueFault(whole.substring(0, at) + sign + whole.substring(at + 1), due);
+                    dueFault(whole.substring(0, at) + sign + whole.substring(at), due);
+                    if (sign != ',' && sign != ';') {
+                        dueFault(whole.substring(0, at + 1) + sign + whole.substring(at + 1), due);
+                    }
+                }
+            }
+        }
+    }
+
     static void promise04_numbersArePartedByCommas() {
         dueFaults(0, "r6;6;", "r6.6;", "r6-6;", "r6 6;", "r6,,6;", "r,6,6;", "p0;0,0;", "p0,0;0;", "r66;");
         dueFaults(14, TWO + "l0;1,0,5;", TWO + "l0,1;0,5;", TWO + "l0,1,0;5;", TWO + "l0,1,0.5;");
@@ -219,6 +242,29 @@ public final class Promise04Test extends Check {
         leaves("fault()", Check::busy, HeartVanes::fault, NONE);
         leaves("fault() with a FAULT", Promise04Test::withFault, HeartVanes::fault, 111);
         leaves("fault(), empty", HeartVanes::new, HeartVanes::fault, NONE);
+    }
+
+    /** What stands in THE TEXT, or in the part ahead of its FAULT, is no ROOM before it is LAID. */
+    static void promise04_itLaysNothing() {
+        String[] texts = {"r1,1;p2,0,0;", "r2,2;p2,0,0;p2,1,1;l0,1,0,20;", "r2,2;p3,0,0;p3,1,0;p3,0,1;x", "r1,1;", ""};
+        for (String text : texts) {
+            leaves("fault() of " + text, () -> busyWith(text), HeartVanes::fault, text.endsWith("x") ? text.length() - 1 : NONE);
+        }
+        leaves("fault() of 6 PERSONS, 2 being there", () -> twoWith(TEXT_OF_200.substring(0, 56)), HeartVanes::fault, NONE);
+    }
+
+    private static HeartVanes busyWith(String text) {
+        HeartVanes vanes = busy();
+        vanes.wipe();
+        writeAll(vanes, text);
+        return vanes;
+    }
+
+    private static HeartVanes twoWith(String text) {
+        HeartVanes vanes = two();
+        vanes.wipe();
+        writeAll(vanes, text);
+        return vanes;
     }
 
     private static HeartVanes withFault() {

@@ -108,6 +108,32 @@ public final class Promise17Test extends Check {
         dueNoSteps(laid("r5,3;p0,0,0;p0,1,0;p0,1,1;p0,1,2;p0,3,2;l0,4,0,5;"), 0, 6);
     }
 
+    static void promise17_toEachCornerAndThroughIt() {
+        // to the north-west, north-east, south-west and south-east end of a ROOM of 2 wide or 2 deep
+        dueSteps(laid("r4,2;p0,3,1;p0,0,1;l0,1,0,5;"), 0, 4, 0, 3, 3, 3);
+        dueSteps(laid("r4,2;p0,0,1;p0,3,1;l0,1,0,5;"), 0, 4, 0, 1, 1, 1);
+        dueSteps(laid("r4,2;p0,3,0;p0,0,0;l0,1,0,5;"), 0, 0, 2, 3, 3, 3);
+        dueSteps(laid("r4,2;p0,0,0;p0,3,0;l0,1,0,5;"), 0, 0, 1, 1, 2, 1);
+        dueSteps(laid("r9,9;p0,8,7;p0,7,8;l0,1,0,5;"), 0, 6, 2);
+        // round by 0, 0, since nothing else is open
+        dueSteps(laid("r2,3;p0,0,2;p0,1,2;p0,1,1;l0,2,0,5;"), 0, 4, 0, 0, 1);
+    }
+
+    static void promise17_whatCantBeReachedDoesNotCount() {
+        // from all of the east the DRAFT toward 4 is west; the west of the ROOM, where it would be another one, is shut off
+        HeartVanes vanes = laid("r5,3;p0,4,2;p0,3,0;p0,3,1;p0,3,2;p0,1,1;l0,4,0,5;");
+        for (int w = 0; w < 8; w++) {
+            if (w != 6) {
+                dueNoSteps(vanes, 0, w);
+            }
+        }
+        dueSteps(vanes, 0, 6);
+        // one of the wall makes way
+        vanes.walk(3, 3);
+        dueSteps(vanes, 0, 7, 3);
+        dueNoSteps(vanes, 0, 2);
+    }
+
     static void promise17_ofItAlone() {
         // the other one would have to walk
         dueNoSteps(laid("r3,1;p0,0,0;p0,1,0;l0,1,0,5;"), 0, 6);
@@ -126,6 +152,34 @@ public final class Promise17Test extends Check {
         dueSteps(vanes, 0, 4);
         dueSteps(vanes, 0, 5, 3);
         dueSteps(vanes, 0, 3, 1);
+    }
+
+    static void promise17_itIsByHowItStandsNow() {
+        HeartVanes vanes = middle();
+        vanes.walk(0, 1);
+        dueSteps(vanes, 0, 7);
+        // one to the south is more than twice as far as to the side, and ahead of one to the west
+        dueSteps(vanes, 0, 0, 2);
+        vanes.lean(0, 1, -5);
+        dueSteps(vanes, 0, 3);
+        vanes.walk(1, 0);
+        vanes.undo();
+        vanes.undo();
+        vanes.undo();
+        dueSteps(vanes, 0, 0);
+        dueSteps(vanes, 0, 7, 1);
+    }
+
+    static void promise17_noneBehindStepsThatThereWere() {
+        HeartVanes vanes = laid("r3,2;p0,0,0;p0,1,0;l0,1,0,5;");
+        dueSteps(vanes, 0, 6, 2, 1, 1, 0);
+        vanes.lean(0, 1, 0);
+        for (int w = 0; w < 8; w++) {
+            dueNoSteps(vanes, 0, w);
+        }
+        vanes.lean(0, 1, 5);
+        dueSteps(vanes, 0, 6, 2, 1, 1, 0);
+        dueSteps(vanes, 0, 2);
     }
 
     static void promise17_itChangesNothing() {

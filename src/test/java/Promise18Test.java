@@ -65,6 +65,17 @@ public final class Promise18Test extends Check {
         }
     }
 
+    static void promise18_allOfAWideAndOfADeepRoom() {
+        // all PLACES but those of the other one and a third, whom it leans toward
+        dueStand(laid("r9,2;p0,8,1;p0,0,0;p0,1,0;l1,2,0,5;"), 0, 1, 2, 16, 1);
+        dueStand(laid("r2,9;p0,1,8;p0,0,0;p0,0,1;l1,2,0,5;"), 0, 1, 4, 16, 2);
+        dueStand(laid("r9,1;p0,8,0;p0,0,0;p0,1,0;l1,2,0,5;"), 0, 1, 2, 7, 20);
+        dueStand(laid("r1,9;p0,0,8;p0,0,0;p0,0,1;l1,2,0,5;"), 0, 1, 4, 7, 2);
+        // the farthest of a row alone, since 2 stands between
+        dueStand(laid("r3,1;p0,2,0;p0,0,0;p0,1,0;l1,0,0,5;"), 0, 1, 2, 1, 20);
+        dueStand(laid("r1,3;p0,0,2;p0,0,0;p0,0,1;l1,0,0,5;"), 0, 1, 4, 1, 2);
+    }
+
     static void promise18_theFirstMayBe0Or88() {
         dueStand(laid("r9,9;p0,5,5;p0,0,1;l1,0,0,2;"), 0, 1, 0, 1, 0);
         dueStand(laid("r9,9;p0,5,5;p0,8,7;l1,0,0,2;"), 0, 1, 4, 1, 88);
@@ -107,6 +118,31 @@ public final class Promise18Test extends Check {
         // at 12 or more away what is felt toward a third is all there is
         HeartVanes third = laid("r9,9;p0,8,8;p0,0,0;p0,0,1;l1,0,1,20;l1,2,0,1;");
         due("12 away or more", third.stand(0, 1, 4, 0), 15);
+    }
+
+    static void promise18_itIsByHowItStandsNow() {
+        HeartVanes vanes = laid("r3,3;p0,0,0;p0,1,1;p0,2,2;l1,0,0,5;");
+        dueStand(vanes, 0, 1, 7, 1, 0);
+        vanes.walk(1, 2);
+        // from 1, 2 the north-west is 0, 0 and 0, 1
+        dueStand(vanes, 0, 1, 7, 2, 0);
+        dueStand(vanes, 0, 1, 0, 2, 10);
+        vanes.lean(1, 0, -5);
+        dueStand(vanes, 0, 1, 3, 2, 0);
+        vanes.walk(0, 1);
+        dueStand(vanes, 0, 1, 4, 2, 10);
+        vanes.undo();
+        vanes.undo();
+        vanes.undo();
+        dueStand(vanes, 0, 1, 7, 1, 0);
+    }
+
+    static void promise18_ofOneBehindAnother() {
+        HeartVanes vanes = laid("r3,3;p0,0,0;p0,1,1;p0,2,2;l1,0,0,5;l0,2,0,5;");
+        dueStand(vanes, 0, 1, 7, 1, 0);
+        // 0 is at 0, 0 for this, wherever it was tried ahead
+        dueStand(vanes, 2, 0, 3, 3, 12);
+        dueStand(vanes, 0, 1, 7, 1, 0);
     }
 
     static void promise18_itChangesNothing() {

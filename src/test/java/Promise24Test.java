@@ -70,6 +70,23 @@ public final class Promise24Test extends Check {
         dueChance(vanes, 0, 0, 5, 0, 1);
     }
 
+    static void promise24_eachOtherThanThePerson() {
+        int[][] due = {{1, 1}, {9, 10}, {4, 5}, {7, 10}, {3, 5}, {1, 2}, {2, 5}, {3, 10}, {1, 5}, {1, 10}, {0, 1}};
+        for (int a = 0; a < 6; a++) {
+            HeartVanes vanes = laid("p0,0,0;p0,1,0;p0,2,0;p0,3,0;p0,4,0;p0,5,0;");
+            for (int b = 0; b < 6; b++) {
+                if (a == b) {
+                    continue;
+                }
+                vanes.lean(a, b, 20);
+                int x = (a + b) % 11;
+                dueChance(vanes, a, b > a ? 2 : 6, x, due[x][0], due[x][1]);
+                dueChance(vanes, a, b > a ? 2 : 6, 3, 7, 10);
+                vanes.undo();
+            }
+        }
+    }
+
     static void promise24_withoutDraftTheChanceIs0() {
         dueChance(corner(), 3, 7, 5, 0, 1);
         for (int x = 0; x <= 10; x++) {
@@ -101,6 +118,21 @@ public final class Promise24Test extends Check {
     static void promise24_12AwayIsNothingEitherWay() {
         dueChance(laid("r9,9;p0,0,0;p0,8,4;l0,1,0,20;"), 0, 3, 5, 0, 1);
         dueChance(laid("r9,9;p0,0,0;p0,8,3;l0,1,0,20;"), 0, 2, 5, 1, 2);
+    }
+
+    static void promise24_itIsByHowItStandsNow() {
+        HeartVanes vanes = laid("r9,9;p0,0,0;p0,3,0;l0,1,0,5;");
+        dueChance(vanes, 0, 2, 5, 1, 2);
+        vanes.lean(0, 1, -5);
+        dueChance(vanes, 0, 2, 5, 0, 1);
+        dueChance(vanes, 0, 6, 5, 1, 2);
+        vanes.walk(1, 2);
+        vanes.walk(1, 2);
+        dueChance(vanes, 0, 7, 5, 1, 2);
+        vanes.undo();
+        vanes.undo();
+        vanes.undo();
+        dueChance(vanes, 0, 2, 5, 1, 2);
     }
 
     static void promise24_itChangesNothing() {
