@@ -1,3 +1,5 @@
+import java.util.List;
+
 /** Promise 4: fault, with what a TEXT is. */
 public final class Promise04Test extends Check {
     private static final String TWO = "p0,0,0;p0,1,1;";
@@ -251,6 +253,22 @@ public final class Promise04Test extends Check {
             leaves("fault() of " + text, () -> busyWith(text), HeartVanes::fault, text.endsWith("x") ? text.length() - 1 : NONE);
         }
         leaves("fault() of 6 PERSONS, 2 being there", () -> twoWith(TEXT_OF_200.substring(0, 56)), HeartVanes::fault, NONE);
+    }
+
+    static void promise04_whateverIsAskedNextIsOfTheRoom() {
+        List<Asked> questions = List.of(vanes -> vanes.toward(1), vanes -> vanes.looked(0), vanes -> vanes.looked(1),
+                vanes -> vanes.behind(1, 5), HeartVanes::settled, vanes -> vanes.steps(5, 3, -1), vanes -> vanes.stand(2, 5, 0, 1),
+                vanes -> vanes.marry(5), vanes -> vanes.marry(-1), vanes -> vanes.kinds(5), vanes -> vanes.loves(4, 1),
+                vanes -> vanes.away(5, 4, 3, 0), vanes -> vanes.away(4, 1, 3, 1), vanes -> vanes.evening(3, 20, 0),
+                vanes -> vanes.place(8, 7), vanes -> vanes.person(5, 4), vanes -> vanes.leaning(5, 2));
+        String[] texts = {"r1,1;p2,0,0;", "r2,2;p2,0,0;p2,1,1;l0,1,0,20;", ""};
+        for (String text : texts) {
+            for (int i = 0; i < questions.size(); i++) {
+                HeartVanes vanes = busyWith(text);
+                vanes.fault();
+                due("question " + i + " behind fault() of " + text, questions.get(i).answer(vanes), questions.get(i).answer(busy()));
+            }
+        }
     }
 
     private static HeartVanes busyWith(String text) {
