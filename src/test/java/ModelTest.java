@@ -8,6 +8,7 @@ import java.util.Random;
 public final class ModelTest {
     private static final int RUNS = 300;
     private static final int CALLS = 300;
+    private static final int CROWDS = 1000;
     private static final Random DRAWS = new Random(20261118);
     private static final List<Method> FACE = new ArrayList<>();
     private static final int[] FAR = {Integer.MIN_VALUE, -1000, -21, -5, -4, -3, -2, -1, 9, 10, 11, 21, 24, 25, 40, 41, 60, 61, 9999, 10000, Integer.MAX_VALUE};
@@ -98,6 +99,27 @@ public final class ModelTest {
         Check.due(run + "lay() of " + text, vanes.lay(), model.lay());
     }
 
+    /** Rooms in which most lean toward most, by little, so that MARRY has much to choose from or no way at all. */
+    private static void askCrowd(HeartVanes vanes, Model model, String run) {
+        int most = 1 + upTo(5);
+        for (int a = 0; a < 6; a++) {
+            for (int b = 0; b < 6; b++) {
+                int l = upTo(most + 1) - 1;
+                Check.due(run + "lean(" + a + ", " + b + ", " + l + ")", vanes.lean(a, b, l), model.lean(a, b, l));
+            }
+        }
+        for (int p = -1; p < 6; p++) {
+            Check.due(run + "marry(" + p + ")", vanes.marry(p), model.marry(p));
+        }
+        for (int p = 0; p < 6; p++) {
+            int w = upTo(7);
+            int k = upTo(3) - 1;
+            int x = upTo(10);
+            Check.due(run + "steps(" + p + ", " + w + ", " + k + ")", vanes.steps(p, w, k), model.steps(p, w, k));
+            Check.due(run + "away(" + p + ", " + w + ", " + x + ", 0)", vanes.away(p, w, x, 0), model.away(p, w, x, 0));
+        }
+    }
+
     public static void main(String[] args) throws Exception {
         for (Method method : HeartVanes.class.getDeclaredMethods()) {
             if (java.lang.reflect.Modifier.isPublic(method.getModifiers())) {
@@ -119,6 +141,12 @@ public final class ModelTest {
         }
         for (int i = 0; i < 20000; i++) {
             layAnew(new HeartVanes(), new Model(), "text " + i + ": ");
+        }
+        for (int i = 0; i < CROWDS; i++) {
+            HeartVanes vanes = new HeartVanes();
+            Model model = new Model();
+            layAnew(vanes, model, "crowd " + i + ": ");
+            askCrowd(vanes, model, "crowd " + i + ": ");
         }
         Check.end();
     }

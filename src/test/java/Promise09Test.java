@@ -141,6 +141,17 @@ public final class Promise09Test extends Check {
         }
     }
 
+    static void promise09_12OrMoreAwayTurnsNoVaneButAMill() {
+        String[] far = {"8,4", "8,5", "7,8", "8,8"};
+        for (String place : far) {
+            for (int kind = 0; kind < 4; kind++) {
+                HeartVanes vanes = laid("r9,9;p" + kind + ",0,0;p0," + place + ";l0,1,0,20;");
+                vanes.pass(3);
+                due("KIND " + kind + ", one at " + place, vanes.person(0, 3), kind == 2 ? 3 : 0);
+            }
+        }
+    }
+
     static void promise09_the0OfTheBeginningStaysWithoutDraft() {
         int[] told = {0, 0, 1, 0};
         for (int kind = 0; kind < 4; kind++) {

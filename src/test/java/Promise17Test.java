@@ -147,6 +147,20 @@ public final class Promise17Test extends Check {
         dueSteps(vanes, 0, 2, 2);
     }
 
+    static void promise17_fartherThan12IsNoDraftEither() {
+        // 16 away: 5 walks nearer it is felt, as far south as east by then or not; never behind it
+        HeartVanes vanes = laid("r9,9;p0,0,0;p0,8,8;l0,1,0,5;");
+        dueSteps(vanes, 0, 3, 1, 1, 1, 1, 2);
+        dueSteps(vanes, 0, 4, 1, 1, 1, 1, 1);
+        dueSteps(vanes, 0, 2, 2, 2, 2, 2, 2);
+        dueNoSteps(vanes, 0, 7);
+        // leaning away, the ways across from these
+        vanes.lean(0, 1, -5);
+        dueSteps(vanes, 0, 7, 1, 1, 1, 1, 2);
+        dueSteps(vanes, 0, 0, 1, 1, 1, 1, 1);
+        dueNoSteps(vanes, 0, 3);
+    }
+
     static void promise17_awayFromOneToo() {
         HeartVanes vanes = laid("r9,9;p0,4,4;p0,4,2;l0,1,1,5;");
         dueSteps(vanes, 0, 4);

@@ -37,6 +37,17 @@ public final class Promise23Test extends Check {
         due("loves(5, 7), 12 away", vanes.loves(5, 7) & 1, 0);
     }
 
+    static void promise23_fartherThan12IsNotFeltEither() {
+        // 13 to 16 away
+        HeartVanes vanes = laid("r9,9;p0,0,0;p0,8,5;p0,6,8;p0,8,7;p0,8,8;");
+        for (int w = 0; w < 8; w++) {
+            due("loves(0, " + w + ")", vanes.loves(0, w), 0);
+            for (int p = 1; p < 5; p++) {
+                due("0 is not in loves(" + p + ", " + w + ")", vanes.loves(p, w) & 1, 0);
+            }
+        }
+    }
+
     static void promise23_moreThanTwiceIsStraightTwiceIsBetween() {
         HeartVanes vanes = laid("r9,9;p0,4,4;p0,5,1;p0,5,2;p0,6,3;p0,7,3;");
         int[] due = {2, 4 | 8, 16, 0, 0, 0, 0, 0};

@@ -120,6 +120,16 @@ public final class Promise24Test extends Check {
         dueChance(laid("r9,9;p0,0,0;p0,8,3;l0,1,0,20;"), 0, 2, 5, 1, 2);
     }
 
+    static void promise24_fartherThan12IsNothingEither() {
+        // 13, 16 away; the one at 1, 0 is all that counts
+        HeartVanes vanes = laid("r9,9;p0,0,0;p0,8,5;p0,8,8;p0,1,0;l0,1,0,20;l0,2,1,20;l0,3,0,1;");
+        for (int w = 0; w < 8; w++) {
+            dueChance(vanes, 0, w, 0, w == 2 ? 1 : 0, 1);
+            dueChance(vanes, 0, w, 3, w == 2 ? 7 : 0, w == 2 ? 10 : 1);
+            dueChance(vanes, 0, w, 10, 0, 1);
+        }
+    }
+
     static void promise24_itIsByHowItStandsNow() {
         HeartVanes vanes = laid("r9,9;p0,0,0;p0,3,0;l0,1,0,5;");
         dueChance(vanes, 0, 2, 5, 1, 2);

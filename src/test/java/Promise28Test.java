@@ -62,6 +62,8 @@ public final class Promise28Test extends Check {
         due("DRAFTS, away from one", vanes.count(4), 6);
         due("toward one 12 away", laid("r9,9;p0,0,0;p0,8,4;l0,1,0,9;").count(4), 0);
         due("toward one 11 away", laid("r9,9;p0,0,0;p0,8,3;l0,1,0,9;").count(4), 1);
+        due("toward one 13 away", laid("r9,9;p0,0,0;p0,8,5;l0,1,0,9;").count(4), 0);
+        due("away from one 16 away", laid("r9,9;p0,0,0;p0,8,8;l0,1,1,9;").count(4), 0);
     }
 
     static void promise28_leaningsOtherThan0() {
